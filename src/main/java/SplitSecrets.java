@@ -184,18 +184,14 @@ public final class SplitSecrets {
     // ---- undo, saving
 
     public int undo() {
-        if (history.size == 0) {
-            return NOT_POSSIBLE;
-        }
-        history.takeBack(now);
-        return history.size;
+        return history.takesBack(now) ? history.size : NOT_POSSIBLE;
     }
 
     public int save(int slot) {
         if (!isSlot(slot)) {
             return BAD_VALUE;
         }
-        slots[slot].copyFrom(now);
+        slots[slot].copyState(now);
         saved[slot] = true;
         return now.kept;
     }
@@ -208,7 +204,7 @@ public final class SplitSecrets {
             return NOT_POSSIBLE;
         }
         history.draft(now);
-        now.copyFrom(slots[slot]);
+        now.copyState(slots[slot]);
         return recorded(now.kept);
     }
 
@@ -273,7 +269,7 @@ public final class SplitSecrets {
         private int offset;
         private int tagOffset;
 
-        private void copyFrom(Half other) {
+        private void copyHalf(Half other) {
             for (int row = 0; row < MOST_VERSIONS; row++) {
                 parts[row] = other.parts[row];
                 taken[row] = other.taken[row];
@@ -331,9 +327,9 @@ public final class SplitSecrets {
         private int stolen;
         private boolean known;
 
-        private void copyFrom(Secret other) {
-            first.copyFrom(other.first);
-            second.copyFrom(other.second);
+        private void copySecret(Secret other) {
+            first.copyHalf(other.first);
+            second.copyHalf(other.second);
             version = other.version;
             olds = other.olds;
             openAs = other.openAs;
@@ -365,7 +361,7 @@ public final class SplitSecrets {
             return all - olds;
         }
 
-        private int answerOfMerger() {
+        private int answerIfMerged() {
             if (first.catches(second)) {
                 return CAUGHT;
             }
@@ -425,9 +421,9 @@ public final class SplitSecrets {
             }
         }
 
-        private void copyFrom(Stores other) {
+        private void copyState(Stores other) {
             for (int i = 0; i < MOST_SECRETS; i++) {
-                secrets[i].copyFrom(other.secrets[i]);
+                secrets[i].copySecret(other.secrets[i]);
             }
             for (int setting = 0; setting < SETTINGS; setting++) {
                 settings[setting] = other.settings[setting];
@@ -577,7 +573,7 @@ public final class SplitSecrets {
             if (someStoreSleeps()) {
                 return NOT_POSSIBLE;
             }
-            return secrets[number].answerOfMerger();
+            return secrets[number].answerIfMerged();
         }
 
         private int mergeParts(int number) {
@@ -835,7 +831,7 @@ public final class SplitSecrets {
         }
 
         private void draft(Stores state) {
-            rows[(oldest + size) % HISTORY_ROWS].copyFrom(state);
+            rows[(oldest + size) % HISTORY_ROWS].copyState(state);
         }
 
         private void recordDraft() {
@@ -846,11 +842,13 @@ public final class SplitSecrets {
             }
         }
 
-        private void takeBack(Stores state) {
-            if (size > 0) {
-                size--;
-                state.copyFrom(rows[(oldest + size) % HISTORY_ROWS]);
+        private boolean takesBack(Stores state) {
+            if (size == 0) {
+                return false;
             }
+            size--;
+            state.copyState(rows[(oldest + size) % HISTORY_ROWS]);
+            return true;
         }
     }
 

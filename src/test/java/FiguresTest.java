@@ -9,6 +9,7 @@ public final class FiguresTest {
         ofSecret();
         old();
         count();
+        countWithAllSecrets();
         check.end();
     }
 
@@ -142,5 +143,21 @@ public final class FiguresTest {
         x.sleep(1);
         check.due("count(4)", x.count(4), 1);
         check.due("count(5)", x.count(5), 0);
+    }
+
+    private static void countWithAllSecrets() {
+        SplitSecrets x = new SplitSecrets();
+        for (int secret = 0; secret < 8; secret++) {
+            x.keep(secret);
+            x.merge(secret);
+            x.steal(0, secret, 1);
+            x.steal(1, secret, 1);
+        }
+        check.due("all are open", x.count(2), 255);
+        check.due("all are known", x.count(3), 255);
+        x.set(SplitSecrets.EACH, 1);
+        check.due("all are refreshed", x.pass(1), 8);
+        check.due("none is open", x.count(2), 0);
+        check.due("all are known", x.count(3), 255);
     }
 }
