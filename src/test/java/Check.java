@@ -1,6 +1,7 @@
-/** Counts answers that are due and answers that are not, and tells the latter. */
+/** Counts answers that are due and answers that are not, and tells the latter, with the sentence that they break. */
 final class Check {
     private final String name;
+    private String sentence = "";
     private int passed;
     private int failed;
 
@@ -8,12 +9,21 @@ final class Check {
         this.name = name;
     }
 
+    /** From here on the answers are due by this sentence of the document. */
+    void says(String sentence) {
+        this.sentence = "\"" + sentence + "\": ";
+    }
+
     void due(String call, long got, long want) {
-        if (got == want) {
+        due(call, String.valueOf(got), String.valueOf(want));
+    }
+
+    void due(String call, String got, String want) {
+        if (got.equals(want)) {
             passed++;
         } else {
             failed++;
-            System.out.println(name + ": " + call + " answered " + got + ", due is " + want);
+            System.out.println(name + ": " + sentence + call + " answered " + got + ", due is " + want);
         }
     }
 

@@ -3,14 +3,16 @@
  * choose the calls come from a row with a fixed beginning, so each run of the test is the same.
  */
 public final class ModelTest {
-    private static final int RUNS = 600;
+    private static final int RUNS = 2500;
     private static final int CALLS = 512;
+    private static final int MOST_AT_ONCE = 60; // of the program's calls in one step
     private static final int[] WRONG = {-1, -2, -6, 999, 1000, 65537, Integer.MIN_VALUE, Integer.MAX_VALUE};
     private static final Check check = new Check("ModelTest");
 
     private final SplitSecrets x = new SplitSecrets();
     private final Model model = new Model();
     private final boolean manyVersions;
+    private int calls;
     private long row;
 
     private ModelTest(int run) {
@@ -21,9 +23,11 @@ public final class ModelTest {
     public static void main(String[] args) {
         for (int run = 0; run < RUNS; run++) {
             ModelTest one = new ModelTest(run);
-            for (int call = 0; call < CALLS; call++) {
-                one.call("run " + run + ", call " + call + ": ");
+            one.keepSecrets("run " + run + ", ", run % 9);
+            while (one.calls <= CALLS - MOST_AT_ONCE) {
+                one.step("run " + run + ", call " + one.calls + ": ");
             }
+            check.holds("an object is used for at most 512 calls", one.calls <= CALLS);
         }
         check.end();
     }
@@ -58,7 +62,17 @@ public final class ModelTest {
         return below(12) == 0 ? upTo(999) : now - below(Math.min(5, Math.max(1, now)));
     }
 
-    private void call(String at) {
+    /** Each call of it is one of the program, and counted. */
+    private void due(String call, int got, int want) {
+        calls++;
+        check.due(call, got, want);
+    }
+
+    private void step(String at) {
+        if (manyVersions && below(2) == 0) {
+            pass(at, 99);
+            return;
+        }
         int kind = below(100);
         if (kind < 55) {
             change(at, below(11));
@@ -67,13 +81,13 @@ public final class ModelTest {
         } else if (kind < 95) {
             text(at);
         } else if (kind < 98) {
-            check.due(at + "undo()", x.undo(), model.undo());
+            due(at + "undo()", x.undo(), model.undo());
         } else {
             int slot = upTo(1);
-            check.due(at + "save", x.save(slot), model.save(slot));
+            due(at + "save", x.save(slot), model.save(slot));
         }
-        check.due(at + "x", x.count(10), model.count(10));
-        check.due(at + "changes", x.count(15), model.count(15));
+        due(at + "x", x.count(10), model.count(10));
+        due(at + "changes", x.count(15), model.count(15));
     }
 
     private void change(String at, int kind) {
@@ -84,44 +98,54 @@ public final class ModelTest {
         switch (kind) {
             case 0:
                 int setting = upTo(2);
-                int value = below(2) == 0 ? upTo(5) : upTo(99);
-                check.due(at + "set", x.set(setting, value), model.change("set", setting, value));
+                int value = below(2) == 0 ? upTo(manyVersions ? 1 : 5) : upTo(99);
+                due(at + "set", x.set(setting, value), model.change("set", setting, value));
                 break;
             case 1:
                 int seed = upTo(9999);
-                check.due(at + "seed", x.seed(seed), model.change("seed", seed));
+                due(at + "seed", x.seed(seed), model.change("seed", seed));
                 break;
             case 2:
                 int kept = upTo(255);
-                check.due(at + "keep", x.keep(kept), model.change("keep", kept));
+                due(at + "keep", x.keep(kept), model.change("keep", kept));
                 break;
             case 3:
-                check.due(at + "refresh", x.refresh(secret), model.change("refresh", secret));
+                due(at + "refresh", x.refresh(secret), model.change("refresh", secret));
                 break;
             case 4:
-                check.due(at + "burn", x.burn(secret), model.change("burn", secret));
+                due(at + "burn", x.burn(secret), model.change("burn", secret));
                 break;
             case 5:
                 sleep(at, store);
                 break;
             case 6:
-                check.due(at + "lie", x.lie(store, secret, offset, tag), model.change("lie", store, secret, offset, tag));
+                due(at + "lie", x.lie(store, secret, offset, tag), model.change("lie", store, secret, offset, tag));
                 break;
             case 7:
-                check.due(at + "merge", x.merge(secret), model.change("merge", secret));
+                due(at + "merge", x.merge(secret), model.change("merge", secret));
                 break;
             case 8:
                 int version = version(secret);
-                check.due(at + "steal", x.steal(store, secret, version), model.change("steal", store, secret, version));
+                due(at + "steal", x.steal(store, secret, version), model.change("steal", store, secret, version));
                 break;
             case 9:
-                int beats = manyVersions ? 99 : below(3) == 0 ? upTo(99) : below(6);
-                check.due(at + "pass", x.pass(beats), model.change("pass", beats));
+                pass(at, below(3) == 0 ? upTo(99) : below(6));
                 break;
             default:
                 int slot = below(4) == 0 ? upTo(1) : 2;
-                check.due(at + "restore", x.restore(slot), model.change("restore", slot));
+                due(at + "restore", x.restore(slot), model.change("restore", slot));
         }
+    }
+
+    private void keepSecrets(String at, int some) {
+        for (int i = 0; i < some; i++) {
+            int secret = upTo(255);
+            due(at + "keep", x.keep(secret), model.change("keep", secret));
+        }
+    }
+
+    private void pass(String at, int beats) {
+        due(at + "pass", x.pass(beats), model.change("pass", beats));
     }
 
     // A store that sleeps refuses most calls, so it is woken again soon.
@@ -131,7 +155,7 @@ public final class ModelTest {
                 return;
             }
         }
-        check.due(at + "sleep", x.sleep(store), model.change("sleep", store));
+        due(at + "sleep", x.sleep(store), model.change("sleep", store));
     }
 
     private void ask(String at, int kind) {
@@ -141,43 +165,43 @@ public final class ModelTest {
         switch (kind) {
             case 0:
                 for (int what = -1; what <= 8; what++) {
-                    check.due(at + "of", x.of(store, secret, what), model.of(store, secret, what));
+                    due(at + "of", x.of(store, secret, what), model.of(store, secret, what));
                 }
                 break;
             case 1:
                 for (int what = -1; what <= 8; what++) {
-                    check.due(at + "ofSecret", x.ofSecret(secret, what), model.ofSecret(secret, what));
+                    due(at + "ofSecret", x.ofSecret(secret, what), model.ofSecret(secret, what));
                 }
                 break;
             case 2:
                 for (int rank = -1; rank <= 5; rank++) {
                     for (int what = -1; what <= 4; what++) {
-                        check.due(at + "old", x.old(secret, rank, what), model.old(secret, rank, what));
+                        due(at + "old", x.old(secret, rank, what), model.old(secret, rank, what));
                     }
                 }
                 break;
             case 3:
                 for (int what = -1; what <= 16; what++) {
-                    check.due(at + "count", x.count(what), model.count(what));
+                    due(at + "count", x.count(what), model.count(what));
                 }
                 break;
             case 4:
-                check.due(at + "otherwise", x.otherwise(store, secret, value), model.otherwise(store, secret, value));
+                due(at + "otherwise", x.otherwise(store, secret, value), model.otherwise(store, secret, value));
                 break;
             case 5:
-                check.due(at + "passing", x.passing(store, secret, value), model.passing(store, secret, value));
+                due(at + "passing", x.passing(store, secret, value), model.passing(store, secret, value));
                 break;
             case 6:
-                check.due(at + "passes", x.passes(store, secret, value), model.passes(store, secret, value));
+                due(at + "passes", x.passes(store, secret, value), model.passes(store, secret, value));
                 break;
             case 7:
-                check.due(at + "needed", x.needed(secret), model.needed(secret));
+                due(at + "needed", x.needed(secret), model.needed(secret));
                 break;
             case 8:
-                check.due(at + "atRisk", x.atRisk(secret), model.atRisk(secret));
+                due(at + "atRisk", x.atRisk(secret), model.atRisk(secret));
                 break;
             default:
-                check.due(at + "ifMerged", x.ifMerged(secret), model.ifMerged(secret));
+                due(at + "ifMerged", x.ifMerged(secret), model.ifMerged(secret));
         }
     }
 
@@ -196,14 +220,14 @@ public final class ModelTest {
         for (int from = 0; from < text.length(); from += 8) {
             long characters = Texts.number(text.substring(from, Math.min(text.length(), from + 8)));
             characters = below(200) == 0 ? characters << 8 * below(8) : characters;
-            check.due(at + "put", x.put(characters), model.put(characters));
+            due(at + "put", x.put(characters), model.put(characters));
         }
-        check.due(at + "fault of " + text, x.fault(), model.fault());
+        due(at + "fault of " + text, x.fault(), model.fault());
         if (below(8) > 0) {
-            check.due(at + "carryOut", x.carryOut(), model.change("carryOut"));
+            due(at + "carryOut", x.carryOut(), model.change("carryOut"));
         }
         if (below(3) == 0) {
-            check.due(at + "wipe", x.wipe(), model.wipe());
+            due(at + "wipe", x.wipe(), model.wipe());
         }
     }
 

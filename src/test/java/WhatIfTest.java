@@ -21,10 +21,13 @@ public final class WhatIfTest {
         x.lie(0, 0, 9, 9);
         x.sleep(0);
         for (int store = 0; store < 2; store++) {
+            SplitSecrets y = new SplitSecrets();
+            y.keep(200);
+            int own = y.of(store, 0, 0);
             for (int value = 0; value < 256; value++) {
-                int part = x.otherwise(store, 0, value);
+                int part = y.otherwise(store, 0, value);
                 check.holds("a part is 0 to 255", part >= 0 && part < 256);
-                check.due("the secret by it", (part + x.of(store, 0, 0)) % 256, value);
+                check.due("the secret by it", (part + own) % 256, value);
             }
             check.due("the part that is", x.otherwise(store, 0, 200), x.of(1 - store, 0, 0));
         }
@@ -67,15 +70,19 @@ public final class WhatIfTest {
         x.keep(55);
         x.sleep(1);
         for (int store = 0; store < 2; store++) {
+            SplitSecrets y = new SplitSecrets();
+            y.keep(55);
+            y.sleep(1);
+            int[] version = new Draws(1).version(55);
             int[] due = new int[257];
             for (int offset = 1; offset < 256; offset++) {
-                int told = (x.of(store, 0, 0) + offset) % 256;
-                int tag = (x.of(1 - store, 0, 2) * told + x.of(1 - store, 0, 3)) % 257;
-                due[(tag - x.of(store, 0, 1) + 257) % 257]++;
+                int told = (version[store] + offset) % 256;
+                int tag = (version[5 - store] * told + version[7 - store]) % 257;
+                due[(tag - version[2 + store] + 257) % 257]++;
             }
             int all = 0;
             for (int tag = 0; tag < 257; tag++) {
-                check.due("passes(" + store + ", 0, " + tag + ")", x.passes(store, 0, tag), due[tag]);
+                check.due("passes(" + store + ", 0, " + tag + ")", y.passes(store, 0, tag), due[tag]);
                 all += due[tag];
             }
             check.due("all offsets above 0", all, 255);
