@@ -21,7 +21,7 @@ final class Look {
         return look.seen.toString();
     }
 
-    /** The first figure that differs, for a failure's message. */
+    /** The first figure that differs, or "no difference". */
     static String difference(String one, String other) {
         String[] ones = one.split("\n");
         String[] others = other.split("\n");

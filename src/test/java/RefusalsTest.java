@@ -52,11 +52,8 @@ public final class RefusalsTest {
                 check.due(call, answer, error);
             }
             check.due(call + ", what follows", goOn(refused, way), goOn(untouched, way));
-            String one = Look.at(refused);
-            String other = Look.at(untouched);
-            if (!one.equals(other)) {
-                check.due(call + ", way " + way + ", " + Look.difference(one, other), 1, 0);
-            }
+            String difference = Look.difference(Look.at(refused), Look.at(untouched));
+            check.due(call + ", the first difference then", difference, "no difference");
         }
     }
 

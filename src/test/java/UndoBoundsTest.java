@@ -13,6 +13,7 @@ public final class UndoBoundsTest {
         atMost6States();
         theOldestOneIsDropped();
         eachChangeIsUndone();
+        undoneItIsOpenAsBefore();
         changesWithoutADifference();
         errorsRecordNothing();
         whatIsNoChangeRecordsNothing();
@@ -104,19 +105,16 @@ public final class UndoBoundsTest {
         }
     }
 
-    /** Something of everything, with no more than one change that can still be undone behind it. */
+    /** Makes the change in an object with something of everything, and takes it back. */
     private static void undone(String name, Consumer<SplitSecrets> change) {
         SplitSecrets x = Made.filled();
         String before = Look.at(x);
         change.accept(x);
         check.due(name + ", changes", x.count(15), 6);
-        x.undo();
+        check.due(name + ", undone", x.undo(), 5);
         // The history is one shorter than before the change, as the oldest state was dropped.
         String after = Look.at(x).replace("count 15 is 5", "count 15 is 6");
-        if (!after.equals(before)) {
-            check.due(name + ", undone, " + Look.difference(after, before), 1, 0);
-        }
-        check.due(name + ", changes left", x.count(15), 5);
+        check.due(name + ", undone, the first difference", Look.difference(after, before), "no difference");
     }
 
     private static void eachChangeIsUndone() {
@@ -141,6 +139,28 @@ public final class UndoBoundsTest {
         undone("steal again", x -> x.steal(0, 0, 6));
         undone("pass", x -> x.pass(99));
         undone("restore", x -> x.restore(0));
+    }
+
+    private static void undoneItIsOpenAsBefore() {
+        check.says("everything except the pad, the slots and the history is as it was before it");
+        SplitSecrets x = new SplitSecrets();
+        x.keep(30);
+        x.set(OPEN, 5);
+        x.merge(0);
+        x.save(0);
+        x.set(OPEN, 4);
+        x.lie(0, 0, 1, x.passing(0, 0, 1));
+        x.merge(0);
+        check.due("open as", x.ofSecret(0, 2), 31);
+        check.due("open for", x.ofSecret(0, 3), 4);
+        x.undo();
+        check.due("open as, undone", x.ofSecret(0, 2), 30);
+        check.due("open for, undone", x.ofSecret(0, 3), 5);
+        x.merge(0);
+        x.restore(0);
+        check.due("open as, restored", x.ofSecret(0, 2), 30);
+        x.undo();
+        check.due("open as, undone", x.ofSecret(0, 2), 31);
     }
 
     private static void changesWithoutADifference() {
@@ -395,7 +415,7 @@ public final class UndoBoundsTest {
         x.sleep(1);
         check.due("restore(0)", x.restore(0), 0);
         String then = Look.at(x).replace("count 15 is 6", "count 15 is 0");
-        check.holds("an empty object: " + Look.difference(then, empty), then.equals(empty));
+        check.due("an empty object, the first difference", Look.difference(then, empty), "no difference");
         check.due("keep", x.keep(200), 0);
         check.due("no old lie", x.of(0, 0, 4), 0);
         check.due("no old thief", x.atRisk(0), 0);
@@ -453,7 +473,7 @@ public final class UndoBoundsTest {
             x.pass(7);
             x.restore(1);
             String after = Look.at(x);
-            check.holds("restored: " + Look.difference(after, before), after.equals(before));
+            check.due("restored, the first difference", Look.difference(after, before), "no difference");
         }
     }
 }
